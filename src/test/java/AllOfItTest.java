@@ -16,6 +16,10 @@ public final class AllOfItTest {
         rests();
         restsOfFeesInTexts();
         restsAreRefused();
+        restsOfAll();
+        heapAtOnce();
+        free();
+        allNow();
         Check.end();
     }
 
@@ -90,6 +94,7 @@ public final class AllOfItTest {
         // k things cost 1 and k * k: 7 heaps of one are 14.
         Check.due("adds by size", x.all(0), 14);
         Check.due("adds by size", x.all(1), 7);
+        heaps("adds by size", x, 1, 2, 4, 8, 16, 32, 64);
         x.set(0, 0, 2);
         // One 3, two 6: two heaps of one, or one heap of two, are 6 alike; fewer heaps count.
         Check.due("like COST, fewest heaps", x.all(0), 21);
@@ -292,6 +297,91 @@ public final class AllOfItTest {
         for (int b = 0; b < 3; b++) {
             Check.due("four rounds at most: rest(" + b + ")", rounds.rest(b), due[b]);
         }
+    }
+
+    private static void restsOfAll() {
+        CostsAge x = new CostsAge();
+        x.buyer(3, 2610, 90);
+        x.buyer(0, 2625, 0);
+        x.thing(0, 0);
+        Check.due("a BABY asks 5 by 0 and by 1", x.rest(0), 0);
+        CostsAge two = new CostsAge();
+        two.buyer(0, 2610, 0);
+        two.buyer(0, 2620, 0);
+        two.buyer(0, 2615, 990);
+        two.thing(0, 0);
+        two.thing(0, 0);
+        two.set(3, 1, 2);
+        // By 10 one thing is 10, by 5 two are 10: the least FEE.
+        Check.due("two by 5, or one by 10", two.rest(0), 5);
+    }
+
+    private static void heapAtOnce() {
+        CostsAge x = new CostsAge();
+        x.buyer(0, 30, 0);
+        x.thing(1, 0);
+        x.thing(1, 0);
+        Check.due("heap() with no all() ahead", x.heap(1), 3);
+        x.set(4, 0, 1);
+        Check.due("heap() behind a change", x.heap(1), 2);
+    }
+
+    /** A COST of 0 is one like others. */
+    private static void free() {
+        CostsAge x = new CostsAge();
+        x.buyer(0, 2605, 0);
+        x.buyer(0, 2600, 0);
+        x.buyer(0, 2604, 0);
+        x.thing(0, 0);
+        Check.due("all(0)", x.all(0), 0);
+        Check.due("all(1)", x.all(1), 1);
+        Check.due("heap(0)", x.heap(0), 1);
+        Check.due("eachOne()", x.eachOne(), 0);
+        Check.due("gain(0, 0)", x.gain(0, 0), 0);
+        Check.due("gain(0, 1)", x.gain(0, 1), 1);
+        Check.due("year()", x.year(), 0);
+        x.buyer(0, 2600, 0);
+        Check.due("gain(0, 1), of like ones the first", x.gain(0, 1), 1);
+        x.thing(0, 0);
+        Check.due("two things: eachOne()", x.eachOne(), 0);
+        x.thing(0, 0);
+        Check.due("three things: eachOne()", x.eachOne(), 4);
+        Check.due("rest(1): another one is free too", x.rest(1), 0);
+        Check.due("rest(3): another one is free too", x.rest(3), 0);
+        x.set(0, 3, 9);
+        Check.due("rest(1): up to the third one", x.rest(1), 4);
+        CostsAge widow = new CostsAge();
+        widow.buyer(5, 2603, 9);
+        widow.thing(0, 5);
+        Check.due("a WIDOW of 0 PENCE", widow.eachOne(), 9);
+        widow.set(3, 0, 0);
+        Check.due("a WIDOW of 0 PENCE", widow.gain(0, 0), 5);
+        CostsAge gain = new CostsAge();
+        gain.buyer(0, 2601, 0);
+        gain.buyer(0, 2605, 0);
+        gain.thing(0, 0);
+        Check.due("of losses the least: gain(0, 1)", gain.gain(0, 1), 0);
+        Check.due("of losses the least: gain(0, 0)", gain.gain(0, 0), -1);
+    }
+
+    /** Not by the YEARS, nor the WEEK, of the next one. */
+    private static void allNow() {
+        CostsAge x = new CostsAge();
+        x.buyer(0, 130, 0);
+        x.thing(0, 100);
+        Check.due("all(0)", x.all(0), 30);
+        Check.due("eachOne()", x.eachOne(), 30);
+        Check.due("gain(0, 0)", x.gain(0, 0), 70);
+        Check.due("year()", x.year(), 30);
+        x.buyer(0, 2635, 0);
+        Check.due("rest(0)", x.rest(0), 5);
+        CostsAge y = new CostsAge();
+        y.buyer(0, 130, 0);
+        y.buyer(0, 2635, 0);
+        y.thing(0, 0);
+        y.set(1, 1, 20);
+        y.set(0, 1, 10);
+        Check.due("rest(1), below the first one's now", y.rest(1), 19);
     }
 
     private static void restsAreRefused() {

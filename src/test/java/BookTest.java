@@ -7,6 +7,7 @@ public final class BookTest {
         lies();
         liesAreRefused();
         judged();
+        freeAndNow();
         judgedIsRefused();
         drawn();
         means();
@@ -108,6 +109,23 @@ public final class BookTest {
         row(x, 0, 2, 1, 1, 0, 0);
         Check.due("BOUGHT already", x.judge(0, 0), 1);
         Check.due("BOUGHT already", x.judge(0, 1), 29);
+    }
+
+    /** 0 is paid like another sum, and nothing is of the next WEEK. */
+    private static void freeAndNow() {
+        CostsAge x = new CostsAge();
+        x.buyer(0, 2600, 0);
+        x.thing(0, 0);
+        x.thing(0, 0);
+        row(x, 0, 0, 0, 0, 0, 1);
+        Check.due("0 is paid: judge(0, 0)", x.judge(0, 0), -1);
+        Check.due("0 is paid: judge(0, 1)", x.judge(0, 1), 0);
+        CostsAge y = new CostsAge();
+        y.buyer(0, 130, 0);
+        y.thing(0, 0);
+        row(y, 0, 0, 0, 0);
+        Check.due("now: judge(0, 1)", y.judge(0, 1), 30);
+        Check.due("now: drawn(3)", y.drawn(3), 30);
     }
 
     private static void judgedIsRefused() {

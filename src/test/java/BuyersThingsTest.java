@@ -45,10 +45,10 @@ public final class BuyersThingsTest {
         CostsAge x = new CostsAge();
         Check.due("the first buyer", x.buyer(5, 5199, 999), 0);
         Check.due("the second buyer", x.buyer(0, 0, 0), 1);
-        Check.due("the third buyer", x.buyer(3, 307, 45), 2);
+        Check.due("the third buyer", x.buyer(3, 5100, 40), 2);
         int[] first = {5, 99, 51, 99, 9};
         int[] second = {0, 0, 0, 0, 0};
-        int[] third = {3, 7, 3, 4, 5};
+        int[] third = {3, 0, 51, 4, 0};
         for (int what = 0; what < 5; what++) {
             Check.due("told(0, " + what + ")", x.told(0, what), first[what]);
             Check.due("told(1, " + what + ")", x.told(1, what), second[what]);

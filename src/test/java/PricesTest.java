@@ -14,6 +14,8 @@ public final class PricesTest {
         whensAreRefused();
         buys();
         buysAreRefused();
+        free();
+        buysNow();
         passes();
         Check.end();
     }
@@ -58,6 +60,8 @@ public final class PricesTest {
         Check.due("over the year: years(1, 46)", x.years(1, 46), 40);
         Check.due("over the year: years(1, 47)", x.years(1, 47), 41);
         Check.due("over two years: years(1, 99)", x.years(1, 99), 42);
+        Check.due("later in the year: years(2, 45)", x.years(2, 45), 98);
+        Check.due("later in the year: years(2, 46)", x.years(2, 46), 99);
         Check.due("nothing truly passed", x.told(0, 1), 31);
     }
 
@@ -216,6 +220,40 @@ public final class PricesTest {
             Check.refused("buy(" + w[0] + ", " + w[1] + ")", PricesTest::shopWithOneBought,
                     x -> x.buy(w[0], w[1]), w[2]);
         }
+    }
+
+    /** A COST of 0 is one like others. */
+    private static void free() {
+        CostsAge x = new CostsAge();
+        x.buyer(0, 2605, 0);
+        x.buyer(0, 2600, 0);
+        x.buyer(0, 2600, 0);
+        x.buyer(0, 2604, 0);
+        x.thing(0, 0);
+        x.thing(0, 0);
+        Check.due("cost(1, 1, 0)", x.cost(1, 1, 0), 0);
+        Check.due("best(1, 0, 0)", x.best(1, 0, 0), 1);
+        Check.due("best(1, 0, 1)", x.best(1, 0, 1), 0);
+        Check.due("when(0, 0)", x.when(0, 0), 0);
+        Check.due("when(0, 1)", x.when(0, 1), 0);
+        x.set(1, 1, 3);
+        Check.due("ASKS of one who pays 0", x.cost(1, 1, 0), 3);
+        Check.due("buy(1, 1)", x.buy(1, 1), 0);
+        Check.due("it is BOUGHT", x.told(0, 10), 1);
+        CostsAge later = new CostsAge();
+        later.buyer(0, 2600, 0);
+        later.thing(0, 0);
+        Check.text(later, "serves 1; adds 7 - week; gains 0;");
+        later.force(1);
+        Check.due("0 behind more", later.when(0, 0), 7);
+        Check.due("0 behind more", later.when(0, 1), 0);
+    }
+
+    private static void buysNow() {
+        CostsAge x = new CostsAge();
+        x.buyer(0, 130, 0);
+        x.thing(0, 0);
+        Check.due("not by next WEEK's YEARS", x.buy(0, 1), 30);
     }
 
     private static void passes() {

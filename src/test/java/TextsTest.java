@@ -9,6 +9,8 @@ public final class TextsTest {
         feedCounts();
         feedIsRefused();
         textsCome();
+        longTexts();
+        theTapesEnd();
         noRoomForATextMore();
         faults();
         opensFive();
@@ -53,10 +55,37 @@ public final class TextsTest {
         Check.due("count(7) by a fault", x.count(7), 2);
         Check.due("the second text", Check.text(x, "serves 1;adds 2;gains 3;"), 2);
         Check.due("blanks", Check.text(x, " \n serves\n1 ;\n\n adds 2 ; gains 3 ; \n "), 3);
-        String longest = "serves 1" + "+1".repeat(65) + ";adds 2;gains 3;";
-        Check.due("the longest's size", longest.length(), 154);
-        Check.due("a long text", Check.text(x, longest + "      "), 4);
-        Check.due("count(7)", x.count(7), 5);
+        Check.due("count(7)", x.count(7), 4);
+    }
+
+    private static void longTexts() {
+        CostsAge x = new CostsAge();
+        x.buyer(0, 2630, 0);
+        x.thing(0, 0);
+        for (int text = 1; text < 6; text++) {
+            String ones = "serves 1;adds " + text + "+1".repeat(68) + ";gains 9;";
+            Check.due("the size of a long text", ones.length(), 160);
+            Check.due("a long text", Check.text(x, ones), text);
+            x.force(text);
+            Check.due("its adds", x.cost(0, 1, 0), 30 + text + 68);
+            Check.due("its gains", x.gain(0, 0), 9 - 30 - text - 68);
+        }
+    }
+
+    /** What an earlier text left behind a shorter one's end, or at the tape's, is not read. */
+    private static void theTapesEnd() {
+        CostsAge x = new CostsAge();
+        Check.text(x, "serves 1;adds 1;gains 123456789;;;;;;;;");
+        Check.due("ends in a NUMBER", Check.text(x, "serves 1;adds 1;gains 12"), -124);
+        Check.text(x, "serves 1;adds 1;gains weekweekweek");
+        Check.due("ends in a WORD", Check.text(x, "serves 1;adds 1;gains week"), -126);
+        Check.text(x, "serves 1;adds 1;gains 1;;;;");
+        Check.due("ends in a SIGN", Check.text(x, "serves 1;adds 1;gains 1;"), 1);
+        String most = "serves 1;adds 1;gains 1" + " ".repeat(132);
+        Check.due("a NUMBER at the end", Check.text(x, most + "+1234"), -260);
+        Check.due("a WORD at the end", Check.text(x, most + "+week"), -260);
+        Check.due("blanks at the end", Check.text(x, most + "     "), -260);
+        Check.due("a SIGN at the end", Check.text(x, most + "    ;"), 2);
     }
 
     private static void fiveTextsMore(CostsAge x) {
@@ -143,6 +172,22 @@ public final class TextsTest {
         fault("serves serves;", 7);
         fault("serves gains 1;", 7);
         fault("serves 1; adds not; gains 1;", 18);
+        fault("serves 1; adds 1; gains 1; 5", 27);
+        fault("serves 1; adds 1; or 1;", 18);
+        fault("serves 1; adds 1; adds 1;", 18);
+        fault("serves 1; serves 1;", 10);
+        fault("serves 1 gains 1;", 9);
+        fault("serves 1 adds 1;", 9);
+        fault("terves 1;", 0);
+        fault("serve 1;", 0);
+        fault("servesx 1;", 0);
+        fault("serves 1; odds 1;", 10);
+        fault("serves 1; adds 1; rains 1;", 18);
+        for (String word : new String[] {"bge", "vize", "halue", "seek", "bee", "awn", "ogn",
+            "siza", "valuee", "eek", "fe", "wn", "nut", "is", "end"}) {
+            fault("serves 1 + " + word + ";", 11);
+            fault("serves 1 " + word + " 1;", 9);
+        }
         fault("serves 1; adds 1; gains \u00e9;", 24);
         fault("serves 1; adds 1; gains \u0000;", 24);
     }
