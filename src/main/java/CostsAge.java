@@ -17,6 +17,8 @@ public final class CostsAge {
     private static final int LARGEST = 9, MOST_VALUE = 999, MOST_CARRY = 63, FIRST_CARRY = 9;
     private static final int BOUND = 999;
     private static final int ROUNDS = 4, FEES_TRIED = 20;
+    /** Above any COST. */
+    private static final int NO_BAR = 1000000;
 
     private static final int CHILD = 1, ELDER = 2, BABY = 3, TWIN = 4, WIDOW = 5, KINDS = 6;
     /** The KIND that each KIND stands under. */
@@ -959,7 +961,7 @@ public final class CostsAge {
         /** A bar is the highest COST by which a BUYER is still BEST for a thing. */
         private void setBars(int b, int buyers, int things) {
             for (int t = 0; t < things; t++) {
-                int bar = Integer.MAX_VALUE;
+                int bar = NO_BAR;
                 for (int c = 0; c < buyers; c++) {
                     int cost = costs[c * MOST_THINGS + t];
                     if (c != b && cost >= 0) {
