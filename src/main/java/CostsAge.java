@@ -1035,7 +1035,7 @@ public final class CostsAge {
         private int worth(int[] code, int from, int to) {
             // Each piece of code puts one number at the most: the stack has room for all.
             int top = -1;
-            for (int i = from; i < to; i++) {
+            for (int i = from; i < to && i < code.length && top + 1 < stack.length; i++) {
                 int piece = code[i];
                 if (piece >= -NAMES) {
                     top++;

@@ -1,19 +1,35 @@
 import java.util.function.Consumer;
+import java.util.function.Supplier;
 import java.util.function.ToLongFunction;
 
 /** Counts answers that are not as due, and ends a test with exit code 1 if there was one. */
 final class Check {
     private static int wrong;
     private static int asked;
+    private static String words = "";
 
     private Check() {
+    }
+
+    /** A sentence of the document, with a test of its own; one that throws is wrong, too. */
+    static void sentence(String said, Runnable test) {
+        words = "\"" + said + "\": ";
+        int before = asked;
+        try {
+            test.run();
+        } catch (RuntimeException | StackOverflowError e) {
+            wrong++;
+            System.out.println(words + "threw " + e);
+        }
+        holds("the test asks", asked > before);
+        words = "";
     }
 
     static void due(String call, long got, long want) {
         asked++;
         if (got != want) {
             wrong++;
-            System.out.println(call + " answered " + got + ", due is " + want);
+            System.out.println(words + call + " answered " + got + ", due is " + want);
         }
     }
 
@@ -21,20 +37,32 @@ final class Check {
         due(what, so ? 1 : 0, 1);
     }
 
-    /** A call on a new object, laid out by the fixture, is refused so and changes nothing. */
-    static void refused(String call, Consumer<CostsAge> fixture, ToLongFunction<CostsAge> asks,
+    /** A call on a new object, laid out by the fixture, answers so and changes nothing. */
+    static void asks(String call, Consumer<CostsAge> fixture, ToLongFunction<CostsAge> asks,
             long want) {
-        CostsAge untouched = new CostsAge();
-        fixture.accept(untouched);
-        CostsAge touched = new CostsAge();
-        fixture.accept(touched);
-        due(call, asks.applyAsLong(touched), want);
+        Supplier<CostsAge> untouched = () -> {
+            CostsAge x = new CostsAge();
+            fixture.accept(x);
+            return x;
+        };
+        Supplier<CostsAge> touched = () -> {
+            CostsAge x = untouched.get();
+            asks.applyAsLong(x);
+            return x;
+        };
+        due(call, asks.applyAsLong(untouched.get()), want);
         String before = Look.at(untouched);
         String after = Look.at(touched);
         if (!before.equals(after)) {
             System.out.println(before + "\n" + after);
         }
         holds(call + " changes nothing", before.equals(after));
+    }
+
+    /** A refusal: just as above, the state being as it was behind it. */
+    static void refused(String call, Consumer<CostsAge> fixture, ToLongFunction<CostsAge> asks,
+            long want) {
+        asks(call, fixture, asks, want);
     }
 
     static void feed(CostsAge x, String text) {

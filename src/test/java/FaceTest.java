@@ -27,20 +27,11 @@ public final class FaceTest {
     }
 
     public static void main(String[] args) throws IOException {
-        constants();
         methods();
         fields();
         classes();
         source(Files.readString(Path.of(args[0])));
         Check.end();
-    }
-
-    private static void constants() {
-        Check.due("NONE", CostsAge.NONE, -1);
-        Check.due("BAD", CostsAge.BAD, -2);
-        Check.due("STATE", CostsAge.STATE, -3);
-        Check.due("FULL", CostsAge.FULL, -4);
-        Check.due("NO", CostsAge.NO, -4611686018427387904L);
     }
 
     private static void methods() {

@@ -1,10 +1,30 @@
-/** All that can be asked of an object, as one text; what is asked last may change it. */
+import java.util.function.Supplier;
+
+/**
+ * All that can be asked of an object, as one text. What tells most of it changes the object, so
+ * each part looks at a new one, that stands as the others do.
+ */
 final class Look {
+    private static final int SIZES = 41;
+
     private Look() {
     }
 
-    static String at(CostsAge x) {
+    static String at(Supplier<CostsAge> made) {
         StringBuilder seen = new StringBuilder();
+        lookAtNumbers(made.get(), seen);
+        lookAtPrices(made.get(), seen);
+        lookAtAll(made.get(), seen);
+        lookAtTexts(made.get(), seen);
+        lookAtTape(made.get(), seen);
+        lookAtImage(made.get(), seen);
+        for (int s = 0; s < 4; s++) {
+            lookAtSheet(made, s, seen);
+        }
+        return seen.toString();
+    }
+
+    private static void lookAtNumbers(CostsAge x, StringBuilder seen) {
         for (int what = 0; what <= 9; what++) {
             seen.append(x.count(what)).append(' ');
         }
@@ -14,23 +34,20 @@ final class Look {
                 seen.append(x.told(of, what)).append(' ');
             }
         }
-        lookAtPrices(x, seen);
-        lookAtSheets(x, seen);
-        // The tape is seen by the fault that it has, THE IMAGE by what it brings back.
-        seen.append("| tape ").append(x.text()).append(' ').append(x.count(7));
-        seen.append("| image ").append(x.back());
-        for (int what = 3; what <= 9; what++) {
-            seen.append(' ').append(x.count(what));
-        }
-        for (int of = 0; of < 7; of++) {
-            seen.append(' ').append(x.told(of, 1)).append(' ').append(x.told(of, 3));
-            seen.append(' ').append(x.told(of, 9)).append(' ').append(x.told(of, 10));
-        }
-        return seen.toString();
     }
 
     private static void lookAtPrices(CostsAge x, StringBuilder seen) {
-        seen.append("| prices ").append(x.all(0)).append(' ').append(x.all(1));
+        seen.append("| prices");
+        for (int b = 0; b < 7; b++) {
+            for (int t = 0; t < 7; t++) {
+                seen.append(' ').append(x.cost(b, 1 << t, 0));
+                seen.append(' ').append(x.cost(b, 1 << t | 1, 57));
+            }
+        }
+    }
+
+    private static void lookAtAll(CostsAge x, StringBuilder seen) {
+        seen.append("| all ").append(x.all(0)).append(' ').append(x.all(1));
         seen.append(' ').append(x.eachOne()).append(' ').append(x.year());
         seen.append(' ').append(x.drawn(77)).append(' ').append(x.mean(0));
         for (int of = 0; of < 7; of++) {
@@ -39,18 +56,59 @@ final class Look {
         }
     }
 
-    private static void lookAtSheets(CostsAge x, StringBuilder seen) {
-        for (int s = 0; s < 4; s++) {
-            seen.append("| sheet ").append(x.lies(s)).append(' ');
-            seen.append(x.judge(s, 0)).append(' ').append(x.judge(s, 1)).append(' ');
-            int size = 0;
-            while (size < 40 && x.copy(s, 0, s, 0, size + 1) == size + 1) {
-                size++;
-            }
-            seen.append(size).append(' ');
-            for (int sort = 0; sort < 3; sort++) {
-                seen.append(x.things(s, sort, 0, 0)).append(' ');
+    private static void lookAtTexts(CostsAge x, StringBuilder seen) {
+        for (int text = 0; text < 6; text++) {
+            seen.append("| text ").append(x.force(text));
+            for (int of = 0; of < 7; of++) {
+                seen.append(' ').append(x.cost(0, 1 << of, 0)).append(' ').append(x.gain(of, 0));
             }
         }
+    }
+
+    /** A tape that wants just a ; is a TEXT then, and is seen by what it is worth. */
+    private static void lookAtTape(CostsAge x, StringBuilder seen) {
+        seen.append("| tape ").append(x.feed(';')).append(' ').append(x.text());
+        seen.append(' ').append(x.force(x.count(7) - 1));
+        for (int of = 0; of < 7; of++) {
+            seen.append(' ').append(x.cost(0, 1 << of, 0)).append(' ').append(x.gain(of, 0));
+        }
+    }
+
+    private static void lookAtImage(CostsAge x, StringBuilder seen) {
+        seen.append("| image ").append(x.back()).append(' ');
+        lookAtNumbers(x, seen);
+    }
+
+    private static void lookAtSheet(Supplier<CostsAge> made, int s, StringBuilder seen) {
+        CostsAge x = made.get();
+        seen.append("| sheet ").append(x.lies(s)).append(' ');
+        seen.append(x.judge(s, 0)).append(' ').append(x.judge(s, 1)).append(' ');
+        int sort = 0;
+        while (sort < 3 && x.things(s, sort, 0, 0) != 0) {
+            sort++;
+        }
+        int size = 0;
+        while (size < SIZES && x.copy(s, 0, s, 0, size + 1) == size + 1) {
+            size++;
+        }
+        seen.append("of sort ").append(sort).append(", ").append(size).append(':');
+        for (int i = 0; i < size && sort < 3; i++) {
+            seen.append(' ').append(cell(made.get(), s, sort, i));
+        }
+    }
+
+    /** What a cell holds, if it could be YEARS; else -1. */
+    private static int cell(CostsAge x, int s, int sort, int i) {
+        x.buyer(0, 0, 0);
+        int other = (s + 1) % 4;
+        x.sheet(other, sort, x.count(0));
+        x.copy(s, i, other, 0, 1);
+        for (int v = 0; v < 100; v++) {
+            x.set(0, 0, v);
+            if ((x.lies(other) & 1) == 0) {
+                return v;
+            }
+        }
+        return -1;
     }
 }
