@@ -23,6 +23,9 @@ public final class FaceTest {
         "long mean 1", "int image 0", "int back 0", "int count 1", "int sheet 3", "int cell 3",
         "int copy 5", "int things 4", "int taken 2"};
 
+    private static final Set<String> LISTED = Set.of("Math.max", "Math.min", "Integer.bitCount",
+        "System.arraycopy");
+
     private FaceTest() {
     }
 
@@ -100,8 +103,27 @@ public final class FaceTest {
                     .matcher(bare);
             Check.holds("no " + word, !m.find());
         }
+        onlyListedCalls(bare);
+        Check.holds("no texts joined by +", !Pattern.compile("\"\" *\\+|\\+ *\"\"").matcher(bare)
+                .find());
         Check.holds("ASCII alone", text.chars().allMatch(c -> c == '\n' || c >= 32 && c < 127));
         methodsAreShort(bare);
+    }
+
+    /** Of the library just what the class is known to need, all of which rule 4 lists. */
+    private static void onlyListedCalls(String bare) {
+        Matcher ofClasses = Pattern.compile("\\b(Math|Integer|Long|System|String|Arrays|List|"
+                + "Character)\\.(\\w+)").matcher(bare);
+        while (ofClasses.find()) {
+            Check.holds(ofClasses.group(), LISTED.contains(ofClasses.group()));
+        }
+        Matcher made = Pattern.compile("\\bnew (\\w+)").matcher(bare);
+        while (made.find()) {
+            Check.holds(made.group(), made.group(1).matches("int|Buyer|Ware|Text|Sheet|Reader|Scene"
+                    + "|Plan|Fees|Standing"));
+        }
+        Check.holds("imports nothing",
+                !Pattern.compile("\\bimport\\b|\\bjava\\.").matcher(bare).find());
     }
 
     private static void methodsAreShort(String bare) {
